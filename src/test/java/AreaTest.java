@@ -32,9 +32,14 @@ public final class AreaTest {
         notSimple("crossing", 0, 0, 10, 10, 10, 0, 0, 10);
         notSimple("folded back", 0, 0, 10, 0, 5, 0, 5, 10);
         notSimple("folded back beyond", 0, 0, 10, 0, -5, 0, -5, 10);
+        notSimple("folded back on a falling slope", 0, 10, 10, 0, 4, 6, 8, 9);
+        notSimple("folded back on a rising slope", 0, 0, 10, 10, 4, 4, 8, 1);
+        notSimple("folded back upright", 0, 0, 0, 10, 0, 4, 8, 1);
         notSimple("folded at the first corner", 5, 0, 0, 10, -5, 5, 10, 0, 0, 0, 20, 0);
         notSimple("folded at the closing side", 10, 0, 10, 10, 5, 0, 0, 0);
         notSimple("a corner on another side", 0, 0, 10, 0, 10, 10, 5, 0, 0, 10);
+        notSimple("a side that ends on an earlier one", 0, 0, 10, 0, 10, 10, 4, 10, 4, 0, 0, 5);
+        notSimple("an earlier side that ends on a later one", 5, 0, 5, 5, -5, 5, -5, 0, 20, 0, 20, -9);
         notSimple("sides that lie on each other", 0, 0, 10, 0, 10, 5, 8, 0, 2, 0, 0, 5);
     }
 
@@ -83,6 +88,8 @@ public final class AreaTest {
         covered("left, at a corner's height", false, -50, 0, 1, dent);
         covered("right, at the dent's height", false, 150, 10, 1, dent);
         covered("left, at the dent's height", false, -50, 10, 1, dent);
+        covered("above a point's height", true, 0, 0, 1, 20, 0, 0, 20, -20, 0, 0, -20);
+        covered("beside a point's height", false, 30, 0, 1, 0, 20, -20, 0, 0, -20, 20, 0);
         covered("deep, the other way round", true, 0, 0, 1, -100, 100, 100, 100, 100, -100, -100, -100);
     }
 

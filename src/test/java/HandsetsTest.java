@@ -7,6 +7,7 @@ public final class HandsetsTest {
         choosing();
         likingLater();
         gatheringOverMinutes();
+        languagesAreHeldApart();
         newerVersions();
         olderPagesDoNothing();
         currentOnes();
@@ -126,6 +127,22 @@ public final class HandsetsTest {
         Typing.same("whole", "1.1/0@3=0123456789abcdefghijABCDEFGHIJ!", Typing.screen(w, 0));
         Check.equal("bytes", 30, w.shown(0, 0, 5));
         Check.equal("alarm", 1, w.total(10));
+    }
+
+    private static void languagesAreHeldApart() {
+        for (int missed = 1; missed <= 6; missed++) {
+            AreaWarnings w = withHandset();
+            w.likes(0, 1);
+            Typing.corners(w, 0, 0, 9, 0, 0, 9);
+            for (int language = 0; language < 3; language++) {
+                Typing.text(w, language, "0123456789abcdefghijABCDEFGHIJ");
+            }
+            w.issue(1, 5, 1, 9, 1000);
+            w.miss(0, missed);
+            w.minute();
+            String due = missed <= 3 ? "1.1/1@1=0123456789abcdefghijABCDEFGHIJ!" : "";
+            Typing.same("the first " + missed + " of nine pages are missed", due, Typing.screen(w, 0));
+        }
     }
 
     private static void newerVersions() {
