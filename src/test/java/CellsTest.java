@@ -26,14 +26,14 @@ public final class CellsTest {
         issueNear(w, 0, 5, 1, 1, 9);
         issueNear(w, 0, 70, 3, 1, 9);
         issueNear(w, 0, 6, 5, 2, 9);
-        Typing.same("no list before a minute", "", Typing.list(w, 0));
+        Check.same("no list before a minute", "", Typing.list(w, 0));
         Check.equal("pages", 3, w.minute());
-        Typing.same("by id", "5.1 6.1 70.1 900.1", Typing.list(w, 0));
-        Typing.same("by severity, id", "70.1/0.0:1 900.1/0.0:1 5.1/0.0:1", Typing.pages(w, 0));
+        Check.same("by id", "5.1 6.1 70.1 900.1", Typing.list(w, 0));
+        Check.same("by severity, id", "70.1/0.0:1 900.1/0.0:1 5.1/0.0:1", Typing.pages(w, 0));
         w.cancel(5);
         Check.equal("pages", 4, w.minute());
-        Typing.same("by id", "-5.2 6.1 70.1 900.1", Typing.list(w, 0));
-        Typing.same("by severity, id", "6.1/0.0:1 70.1/0.0:1 900.1/0.0:1 5.2/3.0:0", Typing.pages(w, 0));
+        Check.same("by id", "-5.2 6.1 70.1 900.1", Typing.list(w, 0));
+        Check.same("by severity, id", "6.1/0.0:1 70.1/0.0:1 900.1/0.0:1 5.2/3.0:0", Typing.pages(w, 0));
         Check.equal("severity", 5, w.listed(0, 1, 2));
         Check.equal("end", 9, w.listed(0, 1, 3));
         Check.equal("spoken", 1, w.listed(0, 1, 4));
@@ -51,7 +51,7 @@ public final class CellsTest {
         Typing.text(w, 2, "012345678");
         w.issue(2, 1, 1, 9, 1);
         Check.equal("pages", 7, w.minute());
-        Typing.same("pages", "1.1/0.0:10 1.1/0.1:10 1.1/0.2:10 1.1/2.0:10 2.1/1.0:10 2.1/1.1:1 2.1/2.0:9",
+        Check.same("pages", "1.1/0.0:10 1.1/0.1:10 1.1/0.2:10 1.1/2.0:10 2.1/1.0:10 2.1/1.1:1 2.1/2.0:9",
             Typing.pages(w, 0));
     }
 
@@ -63,7 +63,7 @@ public final class CellsTest {
         int[] due = {0, 1, 0, 0, 1, 0, 0, 0, 0};
         for (int m = 0; m < due.length; m++) {
             Check.equal("minute " + (m + 1), due[m], w.minute());
-            Typing.same("list at " + (m + 1), m + 1 < 7 ? "1.1" : "", Typing.list(w, 0));
+            Check.same("list at " + (m + 1), m + 1 < 7 ? "1.1" : "", Typing.list(w, 0));
         }
         Check.equal("clock", 9, w.total(0));
     }
@@ -77,23 +77,23 @@ public final class CellsTest {
         Typing.near(w, 500, 0, "b");
         w.update(1, 1, 20, 1);
         w.minute();
-        Typing.same("left", "", Typing.list(w, 0));
+        Check.same("left", "", Typing.list(w, 0));
         w.cancel(1);
         Check.equal("one cell tells of it", 1, w.minute());
-        Typing.same("listed long before", "", Typing.list(w, 0));
-        Typing.same("listed just before", "-1.3", Typing.list(w, 1));
+        Check.same("listed long before", "", Typing.list(w, 0));
+        Check.same("listed just before", "-1.3", Typing.list(w, 1));
         issueNear(w, 0, 2, 1, 4, 20);
         w.minute();
         Typing.near(w, 500, 0, "b");
         w.update(2, 1, 20, 1);
         w.cancel(2);
         w.minute();
-        Typing.same("update and cancel in one minute", "-2.3", Typing.list(w, 0));
-        Typing.same("the update was not listed", "-1.3", Typing.list(w, 1));
+        Check.same("update and cancel in one minute", "-2.3", Typing.list(w, 0));
+        Check.same("the update was not listed", "-1.3", Typing.list(w, 1));
         issueNear(w, 0, 3, 1, 6, 20);
         w.cancel(3);
         w.minute();
-        Typing.same("cancelled before it was listed", "-2.3", Typing.list(w, 0));
+        Check.same("cancelled before it was listed", "-2.3", Typing.list(w, 0));
     }
 
     private static void cancelsAreSentEachMinute() {
@@ -105,10 +105,10 @@ public final class CellsTest {
         w.cancel(1);
         for (int m = 2; m < 6; m++) {
             Check.equal("cancel at " + m, 1, w.minute());
-            Typing.same("page at " + m, "1.2/3.0:0", Typing.pages(w, 0));
+            Check.same("page at " + m, "1.2/3.0:0", Typing.pages(w, 0));
         }
         Check.equal("its end", 0, w.minute());
-        Typing.same("its end", "", Typing.list(w, 0));
+        Check.same("its end", "", Typing.list(w, 0));
     }
 
     private static void cutLines() {
@@ -126,17 +126,17 @@ public final class CellsTest {
         Typing.near(w, 0, 0, "b");
         w.update(1, 1, 9, 1);
         Check.equal("old pages go on", 2, w.minute());
-        Typing.same("the old list", "1.1 2.1", Typing.list(w, 0));
+        Check.same("the old list", "1.1 2.1", Typing.list(w, 0));
         w.minute();
         w.minute();
-        Typing.same("an end while cut", "2.1", Typing.list(w, 0));
+        Check.same("an end while cut", "2.1", Typing.list(w, 0));
         Check.isFalse("was cut", w.line(0, true));
         w.minute();
-        Typing.same("mended", "1.2 -2.2 3.1", Typing.list(w, 0));
+        Check.same("mended", "1.2 -2.2 3.1", Typing.list(w, 0));
         Check.isTrue("whole", w.line(0, true));
         w.line(0, false);
         w.minute();
-        Typing.same("a cancel stays", "1.2 -2.2 3.1", Typing.list(w, 0));
+        Check.same("a cancel stays", "1.2 -2.2 3.1", Typing.list(w, 0));
     }
 
     private static void listsEndAndAreMended() {
@@ -153,10 +153,10 @@ public final class CellsTest {
         }
         w.minute();
         w.minute();
-        Typing.same("one has ended", "2.1", Typing.list(w, 0));
+        Check.same("one has ended", "2.1", Typing.list(w, 0));
         w.line(0, true);
         w.minute();
-        Typing.same("just the one that was listed is cancelled", "-2.3", Typing.list(w, 0));
+        Check.same("just the one that was listed is cancelled", "-2.3", Typing.list(w, 0));
     }
 
     private static void laterCells() {
@@ -165,10 +165,10 @@ public final class CellsTest {
         Check.equal("no cells", 0, w.minute());
         Check.equal("cell", 0, w.cell(0, 0, 1));
         Check.equal("cell", 1, w.cell(0, 500, 1));
-        Typing.same("no list yet", "", Typing.list(w, 0));
+        Check.same("no list yet", "", Typing.list(w, 0));
         Check.equal("pages", 1, w.minute());
-        Typing.same("list", "1.1", Typing.list(w, 0));
-        Typing.same("list elsewhere", "", Typing.list(w, 1));
+        Check.same("list", "1.1", Typing.list(w, 0));
+        Check.same("list elsewhere", "", Typing.list(w, 1));
     }
 
     private static void wrongInputs() {
@@ -189,8 +189,8 @@ public final class CellsTest {
         Check.bounds("listed cell", () -> w.listed(-1, 0, 0));
         Check.bounds("sent cell", () -> w.sent(1, 0, 0));
         w.cancel(1);
-        Typing.same("pages of the latest minute stay", "1.1/0.0:1", Typing.pages(w, 0));
-        Typing.same("the list stays till the next minute", "1.1", Typing.list(w, 0));
+        Check.same("pages of the latest minute stay", "1.1/0.0:1", Typing.pages(w, 0));
+        Check.same("the list stays till the next minute", "1.1", Typing.list(w, 0));
     }
 
     /** Five such warnings are as many as 512 calls leave room for. */

@@ -112,8 +112,8 @@ public final class CentreTest {
         Check.equal("version 2", 1, w.update(1, 5, 2, 1000));
         Check.equal("nothing typed then", 0, w.clear());
         w.minute();
-        Typing.same("where it was", "", Typing.list(w, 0));
-        Typing.same("where it is", "1.2", Typing.list(w, 1));
+        Check.same("where it was", "", Typing.list(w, 0));
+        Check.same("where it is", "1.2", Typing.list(w, 1));
         w.minute();
         Typing.near(w, 0, 0, "c");
         Check.state("the newest has ended", () -> w.update(1, 1, 9, 1));

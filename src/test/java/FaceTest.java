@@ -25,7 +25,7 @@ public final class FaceTest {
                 Check.isFalse(m + " bears a public name", due.stream().anyMatch(d -> d.contains(" " + m.getName() + "(")));
             }
         }
-        Typing.same("methods", due.toString(), got.toString());
+        Check.same("methods", due.toString(), got.toString());
         for (Field f : AreaWarnings.class.getDeclaredFields()) {
             Check.isTrue(f + " is private or NONE", Modifier.isPrivate(f.getModifiers()) || f.getName().equals("NONE"));
         }

@@ -72,7 +72,7 @@ public final class HandsetsTest {
         w.camp(0, AreaWarnings.NONE);
         w.minute();
         Check.equal("nowhere none is missed", 1000, w.miss(0, 0));
-        Typing.same("none is shown", "", Typing.screen(w, 0));
+        Check.same("none is shown", "", Typing.screen(w, 0));
     }
 
     private static void choosing() {
@@ -94,8 +94,8 @@ public final class HandsetsTest {
         Typing.text(w, 2, "two");
         w.issue(4, 2, 1, 9, 1);
         w.minute();
-        Typing.same("likes 2, 1", "1.1/1@1=one! 2.1/2@1=two! 3.1/0@1=zero! 4.1/2@1=two!", Typing.screen(w, 0));
-        Typing.same("likes none", "1.1/0@1=zero! 2.1/0@1=zero! 3.1/0@1=zero! 4.1/2@1=two!", Typing.screen(w, 1));
+        Check.same("likes 2, 1", "1.1/1@1=one! 2.1/2@1=two! 3.1/0@1=zero! 4.1/2@1=two!", Typing.screen(w, 0));
+        Check.same("likes none", "1.1/0@1=zero! 2.1/0@1=zero! 3.1/0@1=zero! 4.1/2@1=two!", Typing.screen(w, 1));
     }
 
     private static void likingLater() {
@@ -105,13 +105,13 @@ public final class HandsetsTest {
         w.issue(1, 5, 1, 9, 1);
         w.miss(0, 1);
         w.minute();
-        Typing.same("holds another language", "", Typing.screen(w, 0));
+        Check.same("holds another language", "", Typing.screen(w, 0));
         Check.equal("likes it", 1, w.likes(0, 1));
-        Typing.same("liking alone shows nothing", "", Typing.screen(w, 0));
+        Check.same("liking alone shows nothing", "", Typing.screen(w, 0));
         w.minute();
-        Typing.same("the next page shows it", "1.1/1@2=one!", Typing.screen(w, 0));
+        Check.same("the next page shows it", "1.1/1@2=one!", Typing.screen(w, 0));
         w.minute();
-        Typing.same("once", "1.1/1@2=one!", Typing.screen(w, 0));
+        Check.same("once", "1.1/1@2=one!", Typing.screen(w, 0));
     }
 
     private static void gatheringOverMinutes() {
@@ -120,11 +120,11 @@ public final class HandsetsTest {
         w.issue(1, 5, 1, 9, 2);
         w.miss(0, 1);
         Check.equal("three pages", 3, w.minute());
-        Typing.same("the first is wanting", "", Typing.screen(w, 0));
+        Check.same("the first is wanting", "", Typing.screen(w, 0));
         w.minute();
-        Typing.same("none sent", "", Typing.screen(w, 0));
+        Check.same("none sent", "", Typing.screen(w, 0));
         w.minute();
-        Typing.same("whole", "1.1/0@3=0123456789abcdefghijABCDEFGHIJ!", Typing.screen(w, 0));
+        Check.same("whole", "1.1/0@3=0123456789abcdefghijABCDEFGHIJ!", Typing.screen(w, 0));
         Check.equal("bytes", 30, w.shown(0, 0, 5));
         Check.equal("alarm", 1, w.total(10));
     }
@@ -141,7 +141,7 @@ public final class HandsetsTest {
             w.miss(0, missed);
             w.minute();
             String due = missed <= 3 ? "1.1/1@1=0123456789abcdefghijABCDEFGHIJ!" : "";
-            Typing.same("the first " + missed + " of nine pages are missed", due, Typing.screen(w, 0));
+            Check.same("the first " + missed + " of nine pages are missed", due, Typing.screen(w, 0));
         }
     }
 
@@ -154,14 +154,14 @@ public final class HandsetsTest {
         Typing.near(w, 0, 0, "0123456789b");
         w.update(1, 2, 9, 1);
         w.minute();
-        Typing.same("the newer one alone", "1.2/0@2=0123456789b!", Typing.screen(w, 0));
+        Check.same("the newer one alone", "1.2/0@2=0123456789b!", Typing.screen(w, 0));
         Typing.near(w, 0, 0, "0123456789c");
         w.update(1, 2, 9, 1);
         w.miss(0, 1);
         w.minute();
-        Typing.same("pages of other versions do not fill it", "1.2/0@2=0123456789b", Typing.screen(w, 0));
+        Check.same("pages of other versions do not fill it", "1.2/0@2=0123456789b", Typing.screen(w, 0));
         w.minute();
-        Typing.same("whole", "1.2/0@2=0123456789b 1.3/0@4=0123456789c!", Typing.screen(w, 0));
+        Check.same("whole", "1.2/0@2=0123456789b 1.3/0@4=0123456789c!", Typing.screen(w, 0));
         Check.equal("no alarms", 0, w.total(10));
     }
 
@@ -178,12 +178,12 @@ public final class HandsetsTest {
         w.minute();
         w.camp(0, 0);
         w.minute();
-        Typing.same("the cell sends it", "1.1/0.0:3", Typing.pages(w, 0));
-        Typing.same("older than the cancel", "", Typing.screen(w, 0));
+        Check.same("the cell sends it", "1.1/0.0:3", Typing.pages(w, 0));
+        Check.same("older than the cancel", "", Typing.screen(w, 0));
         w.handset(0);
         w.camp(1, 0);
         w.minute();
-        Typing.same("a handset that heard no cancel", "1.1/0@4=old!", Typing.screen(w, 1));
+        Check.same("a handset that heard no cancel", "1.1/0@4=old!", Typing.screen(w, 1));
         w.camp(1, 1);
         w.miss(1, 1);
         w.minute();
@@ -192,7 +192,7 @@ public final class HandsetsTest {
         Check.equal("a heard cancel", 0, w.shown(1, 0, 4));
         w.camp(1, 0);
         w.minute();
-        Typing.same("not again", "1.1/0@4=old", Typing.screen(w, 1));
+        Check.same("not again", "1.1/0@4=old", Typing.screen(w, 1));
     }
 
     private static void currentOnes() {
@@ -210,7 +210,7 @@ public final class HandsetsTest {
         Check.equal("its own end", 0, w.shown(0, 0, 4));
         w.camp(0, 0);
         w.minute();
-        Typing.same("both", "1.1/0@1=a 1.2/0@4=b!", Typing.screen(w, 0));
+        Check.same("both", "1.1/0@1=a 1.2/0@4=b!", Typing.screen(w, 0));
     }
 
     private static void alarms() {
@@ -247,7 +247,7 @@ public final class HandsetsTest {
         w.camp(0, 0);
         w.miss(0, 0);
         w.minute();
-        Typing.same("pages are kept meanwhile", "2.1/0@2=b! 1.1/0@3=0123456789a!", Typing.screen(w, 0));
+        Check.same("pages are kept meanwhile", "2.1/0@2=b! 1.1/0@3=0123456789a!", Typing.screen(w, 0));
     }
 
     private static void shownInputs() {

@@ -96,7 +96,7 @@ public final class MakingAndTypingTest {
         w.handset(0);
         w.camp(0, 0);
         w.minute();
-        Typing.same("the text behind clear", "1.1/0@1=de!", Typing.screen(w, 0));
+        Check.same("the text behind clear", "1.1/0@1=de!", Typing.screen(w, 0));
     }
 
     private static void handsets() {

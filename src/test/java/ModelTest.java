@@ -6,7 +6,6 @@ import java.util.TreeMap;
 public final class ModelTest {
     private static final int RUNS = 3000;
     private static final int AREA_RUNS = 3000;
-    private static final int CALLS = 512;
 
     private static final String[] NAMES = {"cell", "corner", "text", "clear", "issue", "update", "cancel", "minute",
         "line", "handset", "likes", "camp", "miss", "covers", "version", "listed", "sent", "shown", "shownByte",
@@ -23,7 +22,7 @@ public final class ModelTest {
     private static final int[] LENGTHS = {1, 1, 1, 1, 2, 2, 3, 9, 10, 11, 11, 11, 12, 20, 21, 30};
 
     private final Random random;
-    private final AreaWarnings program = new AreaWarnings();
+    private final Program program = new Program();
     private final Model model = new Model();
     private int calls = 0;
 
@@ -50,7 +49,7 @@ public final class ModelTest {
         if (random.nextInt(10) > 0) {
             prepare(run, answers);
         }
-        while (calls < CALLS) {
+        while (calls < Program.MOST_CALLS) {
             int before = calls;
             if (random.nextInt(14) == 0) {
                 typeMuch(run, answers);
@@ -71,7 +70,7 @@ public final class ModelTest {
             compare(run, "cell", new int[] {near(grid + 3), near(grid + 3), between(1, 4)}, answers);
         }
         int id = 1;
-        while (calls < CALLS) {
+        while (calls < Program.MOST_CALLS) {
             compare(run, "clear", new int[0], answers);
             compare(run, "text", new int[] {0, 0}, answers);
             int corners = between(3, random.nextInt(4) == 0 ? 8 : 5);
@@ -179,54 +178,20 @@ public final class ModelTest {
     }
 
     private void compare(int run, String name, int[] a, TreeMap<String, Integer> answers) {
-        if (calls == CALLS) {
+        if (calls == Program.MOST_CALLS) {
             return;
         }
         calls++;
-        String due = answer(() -> model.call(name, a));
-        String got = answer(() -> ask(name, a));
+        String due = View.answer(model, name, a);
+        String got = View.answer(program, name, a);
         if (!due.equals(got)) {
             System.out.println("run " + run + ", call " + calls + ": " + name + Arrays.toString(a) + " answered " + got
                 + ", due is " + due);
             Check.isTrue("run " + run, false);
-            calls = CALLS;
+            calls = Program.MOST_CALLS;
         }
         if (!due.startsWith("throws")) {
             answers.merge(name, 1, Integer::sum);
-        }
-    }
-
-    private static String answer(Check.Call call) {
-        try {
-            return String.valueOf(call.answer());
-        } catch (RuntimeException e) {
-            return "throws." + e.getClass().getSimpleName();
-        }
-    }
-
-    private int ask(String name, int[] a) {
-        AreaWarnings w = program;
-        switch (name) {
-            case "cell": return w.cell(a[0], a[1], a[2]);
-            case "corner": return w.corner(a[0], a[1]);
-            case "text": return w.text(a[0], a[1]);
-            case "clear": return w.clear();
-            case "issue": return w.issue(a[0], a[1], a[2], a[3], a[4]);
-            case "update": return w.update(a[0], a[1], a[2], a[3]);
-            case "cancel": return w.cancel(a[0]);
-            case "minute": return w.minute();
-            case "line": return w.line(a[0], a[1] != 0) ? 1 : 0;
-            case "handset": return w.handset(a[0]);
-            case "likes": return w.likes(a[0], a[1]);
-            case "camp": return w.camp(a[0], a[1]);
-            case "miss": return w.miss(a[0], a[1]);
-            case "covers": return w.covers(a[0], a[1]) ? 1 : 0;
-            case "version": return w.version(a[0]);
-            case "listed": return w.listed(a[0], a[1], a[2]);
-            case "sent": return w.sent(a[0], a[1], a[2]);
-            case "shown": return w.shown(a[0], a[1], a[2]);
-            case "shownByte": return w.shownByte(a[0], a[1], a[2]);
-            default: return w.total(a[0]);
         }
     }
 }

@@ -18,6 +18,14 @@ final class Check {
         }
     }
 
+    static void same(String what, String due, String got) {
+        asked++;
+        if (!due.equals(got)) {
+            wrong++;
+            System.out.println(what + " is [" + got + "], due is [" + due + "]");
+        }
+    }
+
     static void isTrue(String what, boolean got) {
         equal(what, 1, got ? 1 : 0);
     }

@@ -9,7 +9,7 @@ import java.util.TreeMap;
  * The document told a second time, slowly and with the Java library: texts for pages, fractions for points,
  * and handsets that keep every page they ever heard. Its answers are compared with the program's.
  */
-final class Model {
+final class Model implements Caller {
     record Place(int x, int y) {
     }
 
@@ -64,8 +64,8 @@ final class Model {
         return clock;
     }
 
-    /** The answer, a boolean as 1 or 0. */
-    int call(String name, int[] a) {
+    @Override
+    public int call(String name, int... a) {
         switch (name) {
             case "cell": return cell(a[0], a[1], a[2]);
             case "corner": return corner(a[0], a[1]);
@@ -86,7 +86,8 @@ final class Model {
             case "sent": return sent(a[0], a[1], a[2]);
             case "shown": return shown(a[0], a[1], a[2]);
             case "shownByte": return shownByte(a[0], a[1], a[2]);
-            default: return total(a[0]);
+            case "total": return total(a[0]);
+            default: throw new AssertionError("no call is named " + name);
         }
     }
 
