@@ -13,6 +13,7 @@ public final class EdgesOfSendingTest {
         severitiesAndIds();
         mostOfAList();
         mostPages();
+        mostPagesOfACell();
         newestVersionsAlone();
         cellsThatAreCovered();
         cancelsWhereListed();
@@ -176,6 +177,20 @@ public final class EdgesOfSendingTest {
         }
         tell("how many pages all cells sent in it: of 12 warnings", many,
             "minute = 72", "sent 7 71 0 = 12", "sent 7 71 2 = 2", "sent 7 71 3 = 1", "sent 7 71 4 = 1");
+    }
+
+    /** No run of 512 calls makes a cell send more: second and third pages cost 10 bytes each. */
+    private static void mostPagesOfACell() {
+        List<String> rows = new ArrayList<>(List.of("cell 0 0 1"));
+        for (int id = 1; id <= 12; id++) {
+            int last = id > 6 ? 21 : 11;
+            rows.addAll(List.of("area 0 0 9 0 0 9", "bytes 0 11", "bytes 1 11", "bytes 2 " + last,
+                "issue " + id + " 1 1 9 1 = 1"));
+        }
+        rows.addAll(List.of("minute = 78", "sent 0 77 0 = 12", "sent 0 77 2 = 2", "sent 0 77 3 = 2", "sent 0 77 4 = 1",
+            "sent 0 78 0 ! bounds"));
+        Story.tellWithoutQuestions("how many pages all cells sent in it: the most of one cell",
+            rows.toArray(new String[0]));
     }
 
     private static void newestVersionsAlone() {
